@@ -12,6 +12,7 @@ public final class PromisesTest {
         promise3();
         promise4();
         promise5();
+        seekTurns();
         joinGivesPairs();
         promise6();
         leaveHandsPairs();
@@ -29,6 +30,7 @@ public final class PromisesTest {
         promise16();
         promise17();
         lateLinks();
+        mostMessages();
         promise18();
         promise19();
         promise20();
@@ -182,19 +184,19 @@ public final class PromisesTest {
         due("a change is on", x.join(2, 0), STATE);
         due("BAD is ahead of STATE", x.join(2, 9), BAD);
         message("JOIN", x, 0, 5, 0, NONE, NONE);
-        x.deliver(0);
+        due("JOIN comes", x.deliver(0), 5);
         message("GIVE", x, 0, 6, 1, NONE, NONE);
         due("still COMING", x.told(1, 0), 1);
-        x.deliver(0);
+        due("GIVE comes", x.deliver(0), 6);
         due("IN by GIVE", x.told(1, 0), 2);
         due("its LEFT", x.beside(1, 0, 0), 0);
         due("its RIGHT", x.beside(1, 0, 1), NONE);
         due("no other place", x.told(1, 2), 1);
         message("LINK", x, 0, 7, 0, NONE, 0);
         message("SEEK", x, 1, 8, 0, NONE, 0);
-        x.deliver(1);
+        due("SEEK comes", x.deliver(1), 8);
         message("TELL", x, 1, 9, 1, NONE, 1);
-        x.deliver(1);
+        due("TELL comes", x.deliver(1), 9);
         due("a place by TELL", x.told(1, 2), 2);
         due("LINK is under way", x.count(5), 1);
         due("nothing known yet", x.beside(0, 0, 1), NONE);
@@ -212,6 +214,48 @@ public final class PromisesTest {
         message("SEEK to the right", x, 2, 8, 1, NONE, 0);
         x.all(1000);
         due("sound of three", x.sound(), 1);
+    }
+
+    private static void seekTurns() {
+        OrderedPeers x = joined(10, 0, 30, 1, 40, 3);
+        x.peer(20, 0);
+        x.join(3, 0);
+        x.all(4);
+        message("SEEK to the right", x, 0, 8, 1, NONE, 0);
+        x.all(1);
+        message("on to the right", x, 0, 8, 2, NONE, 0);
+        x.all(1);
+        message("then to the left of u", x, 0, 8, 0, NONE, 0);
+        x.all(2);
+        due("LEFT by TELL", x.beside(3, 1, 0), 0);
+        due("RIGHT by TELL", x.beside(3, 1, 1), NONE);
+        x.all(1000);
+        due("sound", x.sound(), 1);
+        x.peer(25, 2);
+        x.join(4, 3);
+        x.all(1000);
+        due("sound of five", x.sound(), 1);
+        x.peer(5, 4);
+        x.join(5, 3);
+        x.all(1000);
+        due("sound of six", x.sound(), 1);
+    }
+
+    /** Every ASK's message and the most that a CHANGE can have are under way at once. */
+    private static void mostMessages() {
+        OrderedPeers x = joined(10, 0, 20, 0, 30, 0);
+        x.put(1, 25, 4);
+        x.all(1000);
+        for (int k = 1; k < 160; k++) {
+            x.find(1, 25);
+        }
+        x.leave(1);
+        due("159 finds, 18 LINKS, a HAND", x.count(2), 178);
+        due("the last is the HAND", x.message(177, 0), 10);
+        due("all come", x.all(1000), 178);
+        due("all are done", x.count(4), 160);
+        due("sound", x.sound(), 1);
+        due("the pair", x.kept(0, 0), 4);
     }
 
     private static void joinGivesPairs() {
@@ -352,7 +396,8 @@ public final class PromisesTest {
         due("find from -1", x.find(-1, 1), BAD);
         due("find from one that is OUT", x.find(5, 1), STATE);
         int[][] runs = {{0, 45, 0, 3}, {0, 35, 0, 1, 2}, {4, 15, 4, 2, 1, 0}, {4, 5, 4, 2, 1, 0},
-            {2, 30, 2}, {0, HIGH, 0, 3, 4}, {4, LOW, 4, 2, 1, 0}, {3, 20, 3, 2, 1}, {3, 50, 3, 4}};
+            {2, 30, 2}, {0, HIGH, 0, 3, 4}, {4, LOW, 4, 2, 1, 0}, {3, 20, 3, 2, 1}, {3, 50, 3, 4},
+            {3, 10, 3, 0}};
         for (int k = 0; k < runs.length; k++) {
             int[] peers = java.util.Arrays.copyOfRange(runs[k], 2, runs[k].length);
             due("find", x.find(runs[k][0], runs[k][1]), k);
