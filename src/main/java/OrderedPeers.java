@@ -589,19 +589,19 @@ public final class OrderedPeers {
     /** Promise 14. */
     public int passed(int k, int i) {
         Ask a = askAt(k);
-        if (a == null || i < 0) {
+        if (a == null) {
             return BAD;
         }
-        return i < Math.min(a.passes, MOST_TOLD) ? a.way[i] : NONE;
+        return i >= 0 && i < Math.min(a.passes, MOST_TOLD) ? a.way[i] : NONE;
     }
 
     /** Promise 15. */
     public int noted(int k, int i) {
         Ask a = askAt(k);
-        if (a == null || a.sort != SPAN || i < 0) {
+        if (a == null || a.sort != SPAN) {
             return BAD;
         }
-        return i < Math.min(a.notes, a.notedOnes.length) ? a.notedOnes[i] : NONE;
+        return i >= 0 && i < Math.min(a.notes, a.notedOnes.length) ? a.notedOnes[i] : NONE;
     }
 
     /** Promise 16. */
@@ -913,7 +913,7 @@ public final class OrderedPeers {
     /** Promise 26. */
     public int row(int p, int level, int i) {
         Peer u = peerAt(p);
-        if (u == null || !isLevel(level) || i < 0) {
+        if (u == null || !isLevel(level)) {
             return BAD;
         }
         for (int j = 0; j < peerCount; j++) {

@@ -246,15 +246,15 @@ final class PlainModel {
     }
 
     public int passed(int k, int i) {
-        if (noAsk(k) || i < 0) return BAD;
+        if (noAsk(k)) return BAD;
         List<P> way = asks.get(k).came;
-        return i < 40 && i < way.size() ? way.get(i).number : NONE;
+        return i >= 0 && i < 40 && i < way.size() ? way.get(i).number : NONE;
     }
 
     public int noted(int k, int i) {
-        if (noAsk(k) || i < 0 || asks.get(k).sort != 1) return BAD;
+        if (noAsk(k) || asks.get(k).sort != 1) return BAD;
         List<P> noted = asks.get(k).noted;
-        return i < 40 && i < noted.size() ? noted.get(i).number : NONE;
+        return i >= 0 && i < 40 && i < noted.size() ? noted.get(i).number : NONE;
     }
 
     public long value(int k) {
@@ -490,9 +490,9 @@ final class PlainModel {
     }
 
     public int row(int p, int level, int i) {
-        if (noPeer(p) || level < 0 || level > 8 || i < 0) return BAD;
+        if (noPeer(p) || level < 0 || level > 8) return BAD;
         List<P> r = new ArrayList<>(rowOf(peers.get(p), level).values());
-        return i < r.size() ? r.get(i).number : NONE;
+        return i >= 0 && i < r.size() ? r.get(i).number : NONE;
     }
 
     public int sound() {

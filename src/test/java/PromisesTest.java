@@ -602,7 +602,9 @@ public final class PromisesTest {
         due("no second", x.passed(0, 1), NONE);
         due("no ask", x.passed(1, 0), BAD);
         due("ask -1", x.passed(-1, 0), BAD);
-        due("i -1", x.passed(0, -1), BAD);
+        due("i -1", x.passed(0, -1), NONE);
+        due("i far below", x.passed(0, LOW), NONE);
+        due("no ask, i -1", x.passed(1, -1), BAD);
         due("i far off", x.passed(0, HIGH), NONE);
     }
 
@@ -614,7 +616,10 @@ public final class PromisesTest {
         x.deliver(0);
         due("before it is done", x.noted(0, 0), 0);
         due("no second", x.noted(0, 1), NONE);
-        due("i -1", x.noted(0, -1), BAD);
+        due("i -1", x.noted(0, -1), NONE);
+        due("i far below", x.noted(0, LOW), NONE);
+        due("another ask, i -1", x.noted(1, -1), BAD);
+        due("no ask, i -1", x.noted(2, -1), BAD);
         due("i far off", x.noted(0, HIGH), NONE);
         due("another ask", x.noted(1, 0), BAD);
         due("no ask", x.noted(2, 0), BAD);
@@ -831,7 +836,10 @@ public final class PromisesTest {
         due("peer -1", x.row(-1, 0, 0), BAD);
         due("level 9", x.row(0, 9, 0), BAD);
         due("level -1", x.row(0, -1, 0), BAD);
-        due("i -1", x.row(0, 0, -1), BAD);
+        due("i -1", x.row(0, 0, -1), NONE);
+        due("i far below", x.row(0, 0, LOW), NONE);
+        due("no peer, i -1", x.row(5, 0, -1), BAD);
+        due("level 9, i -1", x.row(0, 9, -1), BAD);
         due("i far off", x.row(0, 0, HIGH), NONE);
     }
 
