@@ -1,28 +1,40 @@
+import java.util.ArrayList;
+import java.util.List;
 import java.util.Random;
+import java.util.function.ToLongFunction;
 
 /**
  * Random runs of calls, messages delivered in any order, on OrderedPeers and on PlainModel:
  * every answer is to be the same. And what has to hold without any model: with no CHANGE
  * on all is SOUND, and each PAIR is with the KEEPER of its KEY.
+ *
+ * <p>PlainModel chooses the calls and says what is due. As nothing is promised behind the 512th
+ * call, a run leaves room for some looks, and is played anew until all has been looked at.
  */
 public final class AgainstModelTest {
-    private static final int RUNS = 300;
+    private static final int RUNS = 1000;
     private static final int CALLS = 512;
+    private static final int FEWEST_LOOKS = 100;
     private static final int[] EDGES = {-1, Integer.MIN_VALUE, Integer.MAX_VALUE, 9, 32, 40, 160, 255, 256};
 
+    /** A call, and what it is to answer. */
+    private record Due(String what, ToLongFunction<OrderedPeers> call, long answer) {
+    }
+
     private final Check check;
-    private final int run;
     private final Random random;
-    private final OrderedPeers one = new OrderedPeers();
-    private final PlainModel two = new PlainModel();
+    private final PlainModel model = new PlainModel();
+    private final List<Due> calls = new ArrayList<>();
+    private final List<Due> looks = new ArrayList<>();
+    private final int most;
     private final int nameRange;
     private final int bitMask;
     private final int eager;
 
     private AgainstModelTest(Check check, int run) {
         this.check = check;
-        this.run = run;
         this.random = new Random(run);
+        this.most = 1 + random.nextInt(CALLS - FEWEST_LOOKS);
         this.nameRange = run % 3 == 0 ? 20 : 200;
         this.bitMask = new int[] {0, 1, 3, 7, 255}[run % 5];
         this.eager = run % 7;
@@ -31,27 +43,56 @@ public final class AgainstModelTest {
     public static void main(String[] args) {
         Check check = new Check();
         for (int run = 0; run < RUNS && check.isClean(); run++) {
-            new AgainstModelTest(check, run).calls();
+            check.about("run " + run);
+            AgainstModelTest test = new AgainstModelTest(check, run);
+            test.chooseCalls();
+            test.chooseLooks();
+            test.play();
         }
         check.end();
     }
 
-    private void calls() {
-        for (int i = 0; i < CALLS && check.isClean(); i++) {
+    private void play() {
+        int room = CALLS - calls.size();
+        for (int from = 0; from < looks.size() && check.isClean(); from += room) {
+            OrderedPeers x = new OrderedPeers();
+            ask(x, calls);
+            ask(x, looks.subList(from, Math.min(from + room, looks.size())));
+        }
+    }
+
+    private void ask(OrderedPeers x, List<Due> some) {
+        for (Due one : some) {
+            check.due(one.what, one.call.applyAsLong(x), one.answer);
+        }
+    }
+
+    private void call(String what, ToLongFunction<OrderedPeers> call, long answer) {
+        calls.add(new Due("call " + calls.size() + ", " + what, call, answer));
+    }
+
+    private void look(String what, ToLongFunction<OrderedPeers> call, long answer) {
+        looks.add(new Due("after " + calls.size() + " calls, " + what, call, answer));
+    }
+
+    // ---- the calls of a run
+
+    private void chooseCalls() {
+        while (calls.size() < most) {
             step();
-            if (i % 32 == 0) {
-                lookAtAll();
-            }
-            if (one.count(5) == 0) {
-                same("sound() at rest", one.sound(), 1);
+            if (model.count(5) == 0) {
+                check.due("sound at rest", model.sound(), 1);
                 pairsAreKept();
             }
         }
-        lookAtAll();
     }
 
-    private void same(String what, long got, long want) {
-        check.due("run " + run + ": " + what, got, want);
+    private void pairsAreKept() {
+        for (int p = 0; p < model.count(0); p++) {
+            for (int i = 0; i < model.told(p, 4); i++) {
+                check.due("keeper of " + model.key(p, i), model.keeper(model.key(p, i)), p);
+            }
+        }
     }
 
     private int odd(int usual) {
@@ -59,13 +100,13 @@ public final class AgainstModelTest {
     }
 
     private int peer() {
-        return odd(random.nextInt(Math.max(1, one.count(0))));
+        return odd(random.nextInt(Math.max(1, model.count(0))));
     }
 
     private int peerIn() {
         for (int tries = 0; tries < 20; tries++) {
             int p = peer();
-            if (one.told(p, 0) == 2) {
+            if (model.told(p, 0) == 2) {
                 return p;
             }
         }
@@ -82,7 +123,7 @@ public final class AgainstModelTest {
 
     private void step() {
         int sort = random.nextInt(20);
-        if (sort < 3 && one.count(0) < 33) {
+        if (sort < 3) {
             make();
         } else if (sort < 9) {
             changeSomething();
@@ -98,20 +139,20 @@ public final class AgainstModelTest {
         int bits = odd(random.nextInt(256) & bitMask);
         int v = random.nextInt();
         switch (random.nextInt(4)) {
-            case 0 -> same("drawn " + name, one.drawn(name), two.drawn(name));
-            case 1 -> same("seed " + v, one.seed(v), two.seed(v));
-            default -> same("peer " + name, one.peer(name, bits), two.peer(name, bits));
+            case 0 -> call("drawn " + name, x -> x.drawn(name), model.drawn(name));
+            case 1 -> call("seed " + v, x -> x.seed(v), model.seed(v));
+            default -> call("peer " + name + ", " + bits, x -> x.peer(name, bits), model.peer(name, bits));
         }
     }
 
     private void changeSomething() {
         int u = peer();
-        int v = one.count(1) == 0 ? u : peerIn();
+        int v = model.count(1) == 0 ? u : peerIn();
         int bits = odd(random.nextInt(256) & bitMask);
         switch (random.nextInt(8)) {
-            case 0, 1 -> same("leave " + u, one.leave(u), two.leave(u));
-            case 2 -> same("again " + u, one.again(u, bits), two.again(u, bits));
-            default -> same("join " + u + ", " + v, one.join(u, v), two.join(u, v));
+            case 0, 1 -> call("leave " + u, x -> x.leave(u), model.leave(u));
+            case 2 -> call("again " + u + ", " + bits, x -> x.again(u, bits), model.again(u, bits));
+            default -> call("join " + u + ", " + v, x -> x.join(u, v), model.join(u, v));
         }
     }
 
@@ -122,96 +163,104 @@ public final class AgainstModelTest {
         int key = key();
         long v = random.nextLong();
         switch (random.nextInt(6)) {
-            case 0 -> same("find", one.find(from, a), two.find(from, a));
-            case 1, 2 -> same("span", one.span(from, a, b), two.span(from, a, b));
-            case 3 -> same("tally", one.tally(from, a, b), two.tally(from, a, b));
-            case 4 -> same("put", one.put(from, key, v), two.put(from, key, v));
-            default -> same("get", one.get(from, key), two.get(from, key));
+            case 0 -> call("find " + from + ", " + a, x -> x.find(from, a), model.find(from, a));
+            case 1, 2 -> call("span " + from + ", " + a + ", " + b, x -> x.span(from, a, b), model.span(from, a, b));
+            case 3 -> call("tally " + from + ", " + a + ", " + b, x -> x.tally(from, a, b), model.tally(from, a, b));
+            case 4 -> call("put " + from + ", " + key, x -> x.put(from, key, v), model.put(from, key, v));
+            default -> call("get " + from + ", " + key, x -> x.get(from, key), model.get(from, key));
         }
     }
 
     private void moveOn() {
         int n = odd(random.nextInt(random.nextInt(6) < eager ? 40 : 4));
-        int i = odd(random.nextInt(Math.max(1, one.count(2))));
         if (random.nextInt(3) == 0) {
-            same("all " + n, one.all(n), two.all(n));
+            call("all " + n, x -> x.all(n), model.all(n));
         } else if (random.nextInt(3) == 0) {
             finishTheChange();
         } else {
-            same("deliver " + i, one.deliver(i), two.deliver(i));
+            deliver(odd(random.nextInt(Math.max(1, model.count(2)))));
         }
+    }
+
+    private void deliver(int i) {
+        call("deliver " + i, x -> x.deliver(i), model.deliver(i));
     }
 
     /** Leaves the ASKS where they are, so that they find their PEERS gone. */
     private void finishTheChange() {
-        for (int tries = 0; tries < 2000 && one.count(6) > 0; tries++) {
-            int i = random.nextInt(one.count(2));
-            if (one.message(i, 2) == OrderedPeers.NONE) {
-                same("deliver " + i, one.deliver(i), two.deliver(i));
+        while (calls.size() < most && model.count(6) > 0) {
+            int i = random.nextInt(model.count(2));
+            if (model.message(i, 2) == PlainModel.NONE) {
+                deliver(i);
             }
         }
     }
 
-    private void pairsAreKept() {
-        for (int p = 0; p < one.count(0); p++) {
-            for (int i = 0; i < one.told(p, 4); i++) {
-                same("keeper of " + one.key(p, i), one.keeper(one.key(p, i)), p);
-            }
+    // ---- all that is told
+
+    private void chooseLooks() {
+        for (int i = -1; i < 10; i++) {
+            int what = i;
+            look("count " + what, x -> x.count(what), model.count(what));
+            look("why " + what, x -> x.why(what), model.why(what));
+        }
+        look("sound", x -> x.sound(), model.sound());
+        look("worst", x -> x.worst(), model.worst());
+        for (int p = -1; p <= model.count(0); p++) {
+            lookAtPeer(p);
+        }
+        for (int k = -1; k <= model.count(3); k++) {
+            lookAtAsk(k);
+        }
+        for (int i = -1; i <= model.count(2); i++) {
+            lookAtMessage(i);
         }
     }
 
-    private void lookAtAll() {
-        for (int what = -1; what < 10; what++) {
-            same("count " + what, one.count(what), two.count(what));
-            same("why " + what, one.why(what), two.why(what));
+    private void lookAtPeer(int p) {
+        int key = key();
+        look("name " + p, x -> x.name(p), model.name(p));
+        look("keeper " + key, x -> x.keeper(key), model.keeper(key));
+        for (int n = -1; n < 6; n++) {
+            int what = n;
+            look("told " + p + ", " + what, x -> x.told(p, what), model.told(p, what));
         }
-        same("sound", one.sound(), two.sound());
-        same("worst", one.worst(), two.worst());
-        lookAtPeers();
-        lookAtAsks();
-        lookAtMessages();
-    }
-
-    private void lookAtPeers() {
-        for (int p = -1; p <= one.count(0); p++) {
-            same("name " + p, one.name(p), two.name(p));
-            int key = key();
-            same("keeper " + key, one.keeper(key), two.keeper(key));
-            for (int what = -1; what < 6; what++) {
-                same("told " + p + ", " + what, one.told(p, what), two.told(p, what));
-            }
-            for (int i = -1; i < 17; i++) {
-                same("key " + p + ", " + i, one.key(p, i), two.key(p, i));
-                same("kept " + p + ", " + i, one.kept(p, i), two.kept(p, i));
-            }
-            for (int level = -1; level < 10; level++) {
-                int i = random.nextInt(8) - 1;
-                same("row " + p + ", " + level + ", " + i, one.row(p, level, i), two.row(p, level, i));
-                for (int side = -1; side < 3; side++) {
-                    same("beside " + p + ", " + level + ", " + side, one.beside(p, level, side), two.beside(p, level, side));
-                }
-            }
+        for (int n = -1; n < 17; n++) {
+            int i = n;
+            look("key " + p + ", " + i, x -> x.key(p, i), model.key(p, i));
+            look("kept " + p + ", " + i, x -> x.kept(p, i), model.kept(p, i));
+        }
+        for (int level = -1; level < 10; level++) {
+            lookAtLevel(p, level);
         }
     }
 
-    private void lookAtAsks() {
-        for (int k = -1; k <= one.count(3); k++) {
-            same("value " + k, one.value(k), two.value(k));
-            for (int what = -1; what < 6; what++) {
-                same("ask " + k + ", " + what, one.ask(k, what), two.ask(k, what));
-            }
-            for (int i = -1; i < 42; i++) {
-                same("passed " + k + ", " + i, one.passed(k, i), two.passed(k, i));
-                same("noted " + k + ", " + i, one.noted(k, i), two.noted(k, i));
-            }
+    private void lookAtLevel(int p, int level) {
+        int i = random.nextInt(8) - 1;
+        look("row " + p + ", " + level + ", " + i, x -> x.row(p, level, i), model.row(p, level, i));
+        for (int n = -1; n < 3; n++) {
+            int side = n;
+            look("beside " + p + ", " + level + ", " + side, x -> x.beside(p, level, side), model.beside(p, level, side));
         }
     }
 
-    private void lookAtMessages() {
-        for (int i = -1; i <= one.count(2); i++) {
-            for (int what = -1; what < 5; what++) {
-                same("message " + i + ", " + what, one.message(i, what), two.message(i, what));
-            }
+    private void lookAtAsk(int k) {
+        look("value " + k, x -> x.value(k), model.value(k));
+        for (int n = -1; n < 6; n++) {
+            int what = n;
+            look("ask " + k + ", " + what, x -> x.ask(k, what), model.ask(k, what));
+        }
+        for (int n = -1; n < 42; n++) {
+            int i = n;
+            look("passed " + k + ", " + i, x -> x.passed(k, i), model.passed(k, i));
+            look("noted " + k + ", " + i, x -> x.noted(k, i), model.noted(k, i));
+        }
+    }
+
+    private void lookAtMessage(int i) {
+        for (int n = -1; n < 5; n++) {
+            int what = n;
+            look("message " + i + ", " + what, x -> x.message(i, what), model.message(i, what));
         }
     }
 }

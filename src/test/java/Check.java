@@ -2,12 +2,18 @@
 final class Check {
     private int looked;
     private int wrong;
+    private String about = "";
+
+    /** What the answers to come are about: printed ahead of each that is not as due. */
+    void about(String what) {
+        about = what + ": ";
+    }
 
     void due(String what, long got, long want) {
         looked++;
         if (got != want) {
             wrong++;
-            System.out.println(what + ": answered " + got + ", due is " + want);
+            System.out.println(about + what + ": answered " + got + ", due is " + want);
         }
     }
 
@@ -15,8 +21,12 @@ final class Check {
         looked++;
         if (!it) {
             wrong++;
-            System.out.println(what + ": does not hold");
+            System.out.println(about + what + ": does not hold");
         }
+    }
+
+    int looked() {
+        return looked;
     }
 
     boolean isClean() {

@@ -487,10 +487,10 @@ public final class PromisesTest {
         x.all(31);
         for (int i = 0; i < 10; i++) {
             x.leave(31);
-            finishChange(x);
+            Made.endChangeBehind(x, 1);
             x.deliver(0);
             x.join(31, 30);
-            finishChange(x);
+            Made.endChangeBehind(x, 1);
             x.deliver(0);
         }
         x.all(1000);
