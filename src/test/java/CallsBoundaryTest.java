@@ -794,6 +794,17 @@ public final class CallsBoundaryTest {
         check.due("of those that are IN", x.worst(), 31);
     }
 
+    @Says(in = "Promise 29", value = "from any PEER that is IN, of any NAME of one")
+    static void worstWithoutThoseThatAreOut(Check check) {
+        OrderedPeers x = Made.in(10, 0, 20, 1, 30, 1, 40, 0, 15, 2);
+        x.leave(4);
+        x.all(1000);
+        check.due("those that are IN", x.worst(), 3);
+        check.due("a FIND of the NAME of one that is OUT", x.find(3, 15), 0);
+        x.all(1000);
+        check.due("would have more", x.ask(0, 3), 4);
+    }
+
     @Says(in = "Promise 29", value = "STATE: a CHANGE is on; NONE: nobody is IN.")
     static void worstRefused(Check check) {
         OrderedPeers x = new OrderedPeers();

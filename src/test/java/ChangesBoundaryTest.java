@@ -150,7 +150,10 @@ public final class ChangesBoundaryTest {
         check.due("w has these no more", x.told(0, 4), 2);
         check.due("u has none yet", x.told(1, 4), 0);
         check.due("w's NAME is held back", x.key(0, 0), 30);
+        check.due("with its VALUE", x.kept(0, 0), 30);
         check.due("above it too", x.key(0, 1), 31);
+        check.due("with its VALUE", x.kept(0, 1), 31);
+        message(check, x, 0, GIVE, 1, NONE);
         x.all(1);
         place(check, x, 1, 0, NONE, 0);
         check.due("given", x.told(1, 4), 3);
@@ -524,6 +527,49 @@ public final class ChangesBoundaryTest {
         message(check, x, 2, HAND, 2, NONE);
         x.all(1000);
         check.due("without a LEFT to the RIGHT", x.kept(2, 0), 5);
+    }
+
+    @Says(in = "Terms", value = "they go by HAND to its LEFT of LEVEL 0, or its RIGHT, to which they come")
+    static void theHandGoesToThoseOfLevel0(Check check) {
+        OrderedPeers x = Made.in(10, 0, 20, 1, 30, 0);
+        x.put(0, 30, 5);
+        x.put(0, 10, 6);
+        x.all(1000);
+        x.leave(2);
+        message(check, x, x.count(2) - 1, HAND, 1, NONE);
+        x.all(1000);
+        x.join(2, 0);
+        x.all(1000);
+        check.due("given back to it", x.kept(2, 0), 5);
+        x.leave(0);
+        message(check, x, x.count(2) - 1, HAND, 1, NONE);
+        x.all(1000);
+        check.due("they have come to the RIGHT of LEVEL 0", x.kept(1, 0), 6);
+    }
+
+    @Says(in = "Terms", value = "Then, if it has PAIRS, they go by HAND")
+    static void sixteenPairsGoAndCome(Check check) {
+        OrderedPeers x = Made.in(100, 0);
+        for (int key = 15; key >= 0; key--) {
+            x.put(0, key, key + 1);
+        }
+        x.all(1000);
+        x.peer(8, 0);
+        x.peer(0, 1);
+        x.join(1, 0);
+        x.all(1000);
+        check.due("all were given", x.told(1, 4), 16);
+        check.due("none was held back", x.told(0, 4), 0);
+        x.join(2, 1);
+        x.all(1000);
+        check.due("half of them were given", x.told(2, 4), 8);
+        check.due("half were held back", x.told(1, 4), 8);
+        x.leave(1);
+        x.all(1000);
+        for (int i = 0; i < 16; i++) {
+            check.due("among those that it had, by KEYS", x.key(2, i), i);
+            check.due("with its VALUE", x.kept(2, i), i + 1);
+        }
     }
 
     @Says(in = "Terms", value = "with nobody there, they are no more")

@@ -68,9 +68,14 @@ public final class MessagesBoundaryTest {
         OrderedPeers x = Made.in(10, 0);
         check.due("none at first", x.told(0, 3), 0);
         x.find(0, 1);
-        x.leave(0);
         x.all(1);
-        check.due("though it is OUT", x.told(0, 3), 1);
+        x.find(0, 1);
+        x.leave(0);
+        check.due("it stays as it leaves", x.told(0, 3), 1);
+        x.all(1);
+        check.due("1 more, though it is OUT", x.told(0, 3), 2);
+        x.join(0, 0);
+        check.due("it stays as it joins", x.told(0, 3), 2);
     }
 
     // ---- asks
@@ -167,6 +172,15 @@ public final class MessagesBoundaryTest {
         runs(check, x, x.find(3, 9), 0, 3, 0);
         runs(check, x, x.find(0, 9), 0, 0);
         runs(check, x, x.find(0, LOW), 0, 0);
+    }
+
+    @Says(in = "Terms", value = "of the highest LEVEL at which it has one whose NAME is not above x")
+    static void theHighestLevelIs8(Check check) {
+        OrderedPeers x = Made.in(10, 0, 20, 128, 30, 0);
+        runs(check, x, x.find(0, 30), 2, 0, 2);
+        runs(check, x, x.find(0, 29), 1, 0, 1);
+        runs(check, x, x.find(2, 10), 0, 2, 0);
+        runs(check, x, x.find(2, 11), 0, 2, 1, 0);
     }
 
     @Says(in = "Terms", value = "whose NAME is not above x")
